@@ -270,9 +270,9 @@ public final class PantryDoors {
         }
         int left = weight;
         for (int ahead = 0; ahead < g; ahead++) {
-            left -= leastOf(ahead, left) * told.weight[ahead];
+            left -= leastCarried(ahead, left) * told.weight[ahead];
         }
-        return leastOf(g, left);
+        return leastCarried(g, left);
     }
 
     /** For each weight, how much worth the goods from each one on can have together. */
@@ -297,7 +297,7 @@ public final class PantryDoors {
     }
 
     /** The least of a good by which the most worth can still be had. */
-    private int leastOf(int g, int weight) {
+    private int leastCarried(int g, int weight) {
         int open = life.now.open(told, g);
         for (int n = 0; n <= open && n * told.weight[g] <= weight; n++) {
             if (worthWith(g, n, weight) == best[g * LOADS + weight]) {
@@ -698,8 +698,10 @@ public final class PantryDoors {
         static final int MOST = 150;
         private static final int END = 0, LETTERS = 1, NUMBER = 2, STOP = 3, WRONG = 4;
         private static final int MOST_NUMBER = 99;
+        private static final int NUMBERS = 4;
         final int[] bytes = new int[MOST];
         int length;
+        private final int[] numbers = new int[NUMBERS];
         private int at;
         private int place;
         private int token;
@@ -717,77 +719,84 @@ public final class PantryDoors {
                 if (token == END) {
                     return items;
                 }
-                if (token != LETTERS || !item(into)) {
+                if (!readItem(into)) {
                     return FAULT - place;
                 }
             }
             return FAULT - place;
         }
 
-        private boolean item(House into) {
-            boolean stands;
-            switch (value) {
-                case 'g': stands = goodItem(into); break;
-                case 'b': stands = dayItem(into, into.brought); break;
-                case 'm': stands = dayItem(into, into.missed); break;
-                case 'd': stands = doorItem(into); break;
-                default: stands = false; break;
-            }
-            if (!stands) {
+        private boolean readItem(House into) {
+            int letter = value;
+            if (token != LETTERS || !canBegin(into, letter)) {
                 return false;
             }
+            int wanted = numbersOf(letter);
+            for (int i = 0; i < wanted && i < NUMBERS; i++) {
+                next();
+                if (token != NUMBER || !within(value, leastOf(letter, i), mostOf(into, letter, i))) {
+                    return false;
+                }
+                numbers[i] = value;
+            }
             next();
-            return token == STOP;
+            if (token != STOP) {
+                return false;
+            }
+            put(into, letter);
+            return true;
         }
 
-        private boolean goodItem(House into) {
+        private boolean canBegin(House into, int letter) {
+            switch (letter) {
+                case 'g': return into.goods < GOODS;
+                case 'b': return true;
+                case 'm': return true;
+                case 'd': return !doorTold;
+                default: return false;
+            }
+        }
+
+        private static int numbersOf(int letter) {
+            return letter == 'g' ? 4 : letter == 'd' ? 2 : 3;
+        }
+
+        private static int leastOf(int letter, int i) {
+            return letter == 'd' || letter == 'g' && i == 2 ? 1 : 0;
+        }
+
+        private static int mostOf(House into, int letter, int i) {
+            switch (letter) {
+                case 'g': return i == 0 ? 60 : 9;
+                case 'd': return MOST_LAW;
+                default: return i == 0 ? DAYS - 1 : i == 1 ? into.goods - 1 : 30;
+            }
+        }
+
+        private void put(House into, int letter) {
+            switch (letter) {
+                case 'g': putGood(into); break;
+                case 'b': into.brought[numbers[0] * GOODS + numbers[1]] = numbers[2]; break;
+                case 'm': into.missed[numbers[0] * GOODS + numbers[1]] = numbers[2]; break;
+                default: putDoor(into); break;
+            }
+        }
+
+        private void putGood(House into) {
             int g = into.goods;
-            if (g >= GOODS) {
-                return false;
+            if (g < GOODS) {
+                into.first[g] = numbers[0];
+                into.use[g] = numbers[1];
+                into.weight[g] = numbers[2];
+                into.worth[g] = numbers[3];
+                into.goods++;
             }
-            into.goods++;
-            return number(into.first, g, 0, 60) && number(into.use, g, 0, 9)
-                && number(into.weight, g, 1, 9) && number(into.worth, g, 0, 9);
         }
 
-        private boolean dayItem(House into, int[] row) {
-            if (!isNumber(0, DAYS - 1)) {
-                return false;
-            }
-            int d = value;
-            if (!isNumber(0, into.goods - 1)) {
-                return false;
-            }
-            return number(row, d * GOODS + value, 0, 30);
-        }
-
-        private boolean doorItem(House into) {
-            if (doorTold) {
-                return false;
-            }
+        private void putDoor(House into) {
             doorTold = true;
-            if (!isNumber(1, MOST_LAW)) {
-                return false;
-            }
-            into.every = value;
-            if (!isNumber(1, MOST_LAW)) {
-                return false;
-            }
-            into.back = value;
-            return true;
-        }
-
-        private boolean number(int[] row, int i, int least, int most) {
-            if (!isNumber(least, most)) {
-                return false;
-            }
-            row[i] = value;
-            return true;
-        }
-
-        private boolean isNumber(int least, int most) {
-            next();
-            return token == NUMBER && within(value, least, most);
+            into.every = numbers[0];
+            into.back = numbers[1];
         }
 
         private void next() {
