@@ -1,3 +1,4 @@
+import java.lang.reflect.Method;
 import java.util.ArrayList;
 import java.util.Arrays;
 import java.util.List;
@@ -426,75 +427,32 @@ public final class OracleRuns {
                 text.length()};
             return what < 0 || what >= all.length ? BAD : all[what];
         }
+
+        long trace() {
+            return trace;
+        }
     }
 
     private static final String[] CALLS = {"type", "clear", "house", "good", "day", "goes", "takes", "buys", "holds",
         "undo", "now", "gives", "hungry", "fed", "carry", "odds", "store", "saw", "days", "look", "gave", "laws",
         "forget", "mark", "keep", "back", "count", "trace"};
 
-    private static long ask(PantryDoors x, int call, int a, int b, int c) {
-        switch (call) {
-            case 0: return x.type(a);
-            case 1: return x.clear();
-            case 2: return x.house();
-            case 3: return x.good(a, b);
-            case 4: return x.day(a, b, c);
-            case 5: return x.goes();
-            case 6: return x.takes(a, b);
-            case 7: return x.buys(a, b);
-            case 8: return x.holds(a);
-            case 9: return x.undo();
-            case 10: return x.now(a);
-            case 11: return x.gives(a, b);
-            case 12: return x.hungry(a, b);
-            case 13: return x.fed(a, b);
-            case 14: return x.carry(a, b);
-            case 15: return x.odds(a, b, c);
-            case 16: return x.store(a, b);
-            case 17: return x.saw(a, b);
-            case 18: return x.days();
-            case 19: return x.look();
-            case 20: return x.gave(a, b);
-            case 21: return x.laws(a);
-            case 22: return x.forget();
-            case 23: return x.mark(a, b);
-            case 24: return x.keep(a);
-            case 25: return x.back(a);
-            case 26: return x.count(a);
-            default: return x.trace();
+    private static final Method[] GOT = methods(PantryDoors.class), DUE = methods(Oracle.class);
+
+    private static Method[] methods(Class<?> of) {
+        Method[] found = new Method[CALLS.length];
+        for (Method m : of.getDeclaredMethods()) {
+            int call = Arrays.asList(CALLS).indexOf(m.getName());
+            if (call >= 0) found[call] = m;
         }
+        return found;
     }
 
-    private static long due(Oracle x, int call, int a, int b, int c) {
-        switch (call) {
-            case 0: return x.type(a);
-            case 1: return x.clear();
-            case 2: return x.house();
-            case 3: return x.good(a, b);
-            case 4: return x.day(a, b, c);
-            case 5: return x.goes();
-            case 6: return x.takes(a, b);
-            case 7: return x.buys(a, b);
-            case 8: return x.holds(a);
-            case 9: return x.undo();
-            case 10: return x.now(a);
-            case 11: return x.gives(a, b);
-            case 12: return x.hungry(a, b);
-            case 13: return x.fed(a, b);
-            case 14: return x.carry(a, b);
-            case 15: return x.odds(a, b, c);
-            case 16: return x.store(a, b);
-            case 17: return x.saw(a, b);
-            case 18: return x.days();
-            case 19: return x.look();
-            case 20: return x.gave(a, b);
-            case 21: return x.laws(a);
-            case 22: return x.forget();
-            case 23: return x.mark(a, b);
-            case 24: return x.keep(a);
-            case 25: return x.back(a);
-            case 26: return x.count(a);
-            default: return x.trace;
+    private static long ask(Object x, Method m, Object... numbers) {
+        try {
+            return ((Number) m.invoke(x, Arrays.copyOf(numbers, m.getParameterCount()))).longValue();
+        } catch (ReflectiveOperationException e) {
+            throw new IllegalStateException(m.getName() + Arrays.toString(numbers), e);
         }
     }
 
@@ -513,7 +471,7 @@ public final class OracleRuns {
         void call(int call, int a, int b, int c) {
             if (lost || calls >= 512) return;
             calls++;
-            long w = due(want, call, a, b, c), g = ask(got, call, a, b, c);
+            long w = ask(want, DUE[call], a, b, c), g = ask(got, GOT[call], a, b, c);
             story.append(CALLS[call]).append('(').append(a).append(", ").append(b).append(", ").append(c)
                 .append(") = ").append(g).append('\n');
             if (g != w) {
