@@ -523,9 +523,9 @@ public final class PantryDoors {
         return all;
     }
 
-    /** The day on which a door gives on day d by a law; NONE. */
+    /** The day on which a door gives on day d by a law; NONE. Day 20, the end, is none of the days of the law. */
     private static int leadsBy(int every, int back, int d) {
-        if (every < 1 || d % every != 0 || d < back) {
+        if (every < 1 || !within(d, back, DAYS - 1) || d % every != 0) {
             return NONE;
         }
         return d - back;

@@ -134,7 +134,7 @@ public final class OracleRuns {
         }
 
         static int by(int every, int back, int d) {
-            return d % every == 0 && d - back >= 0 ? d - back : NONE;
+            return d < 20 && d % every == 0 && d - back >= 0 ? d - back : NONE;
         }
 
         int gate(Now n) {

@@ -231,6 +231,7 @@ public final class PromiseTests {
         due("less can be taken", x.good(1, 6), 1);
         x.holds(1);
         due("none through a door that is held", x.good(1, 6), 0);
+        due("none at the end", atTheEnd().good(0, 6), 0);
     }
 
     private static void day() {
@@ -308,6 +309,12 @@ public final class PromiseTests {
         due("all is taken from there", full.day(0, 0, 2), 20);
         due("taken though there is 999", full.takes(0, 10), 999);
         due("what was missed as told, not as there was", lessThere(), 2);
+        PantryDoors end = atTheEnd();
+        due("at the end", end.takes(0, 1), STATE);
+        due("nothing was taken", end.day(19, 0, 2), 0);
+        due("wrong ahead of the end", end.takes(0, 31), BAD);
+        end.undo();
+        due("on the last day", end.takes(0, 4), 60);
     }
 
     private static int lessThere() {
@@ -349,6 +356,10 @@ public final class PromiseTests {
         x.holds(1);
         due("by its law, on a day on which it does not give", x.holds(0), NONE);
         due("known", x.count(5), 9);
+        PantryDoors end = atTheEnd();
+        due("held at the end", end.holds(1), NONE);
+        due("by its law at the end: on nothing", end.holds(0), NONE);
+        due("known", end.count(5), 10);
     }
 
     private static void undo() {
@@ -411,7 +422,23 @@ public final class PromiseTests {
         pass(y, 19);
         due("the end", y.now(0), 20);
         due("at the end", y.now(5), NONE);
-        due("by its law on day 20 too", y.now(1), 19);
+        due("nothing at the end, which is none of the days", y.now(1), NONE);
+        y.undo();
+        due("by its law on the last day", y.now(1), 18);
+        for (int every = 1; every <= 9; every++) {
+            for (int back = 1; back <= 9; back++) {
+                PantryDoors end = with("d" + every + " " + back + ";");
+                pass(end, 20);
+                due("at the end by d" + every + " " + back, end.now(1), NONE);
+            }
+        }
+    }
+
+    /** A house at its end: by the law's letters the door would give on day 19, on which 5 were missed. */
+    private static PantryDoors atTheEnd() {
+        PantryDoors x = with("d1 1;g60 0 1 1;m18 0 4;m19 0 5;");
+        pass(x, 20);
+        return x;
     }
 
     private static void gives() {
@@ -520,6 +547,8 @@ public final class PromiseTests {
         x.holds(1);
         due("held", x.carry(8, -1), NONE);
         due("wrong ahead of none", x.carry(8, 4), BAD);
+        due("at the end", atTheEnd().carry(60, -1), NONE);
+        due("at the end", atTheEnd().carry(60, 0), NONE);
         PantryDoors most = with("d1 1;g0 0 9 9;g0 0 9 9;g0 0 1 9;g0 0 1 9;m0 0 30;m0 1 30;m0 2 30;m0 3 30;");
         most.goes();
         due("the most", most.carry(60, -1), 540);
